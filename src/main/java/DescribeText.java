@@ -314,7 +314,7 @@ public final class DescribeText {
     private static final class Tokens {
         private final Token[] kinds = new Token[MOST_TEXT + 1];
         private final int[] starts = new int[MOST_TEXT + 1];
-        /** A NUMBER's number, or a NAME's signs packed to one number. */
+        /** A NUMBER's number, or a NAME as a number, so that texts compare NAMES without their letters. */
         private final long[] values = new long[MOST_TEXT + 1];
         private int count;
 
@@ -457,7 +457,6 @@ public final class DescribeText {
                 }
             }
             noteNames();
-            edition = null;
             return faultAt;
         }
 

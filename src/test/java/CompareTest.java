@@ -19,9 +19,14 @@ public final class CompareTest {
         change("octets signed", "octets", 1);
         change("1 / 2 plus 3", "2 / 4 plus 3", 1);
         change("1 / 2 plus 3", "1 / 2 plus - 3", 1);
+        change("1 / 2 plus 3", "3 / 2 plus 3", 1);
+        change("1 / 2 plus 3", "1 / 3 plus 3", 1);
         change("1 / 2 plus 3", "01 / 2 plus 000003", 0);
         change("1 on ; 0 off", "0 off ; 1 on", 1);
         change("1 on ; 0 off", "1 on ; 2 off", 1);
+        change("1 on ; 0 off", "2 on ; 0 off", 1);
+        change("1 on ; 0 off", "1 yes ; 0 off", 1);
+        change("{ 1 on ; 0 off ; }", ";", 1);
         change("1 on ; 0 off", "1 on ; 0 no", 1);
         change("1 on ; 0 off ;", "1 on ;", 1);
         change("coding c = 2 octets", "coding c = 2 octets scale 1 / 1 plus 0", 1);

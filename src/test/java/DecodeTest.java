@@ -63,10 +63,10 @@ public final class DecodeTest {
         value("m", "0 0 0 0", -999999, 1);
         value("m", "0 15 66 62", 0, 1);
 
-        for (int[] row : new int[][] {{0, 14}, {1, 15}, {255, 16}, {2, 0}}) {
+        for (int[] row : new int[][] {{0, 13}, {1, 14}, {255, 15}, {2, 0}}) {
+            // The 12 codings have the first NAMES, the last one's ROWS follow.
             DescribeText x = with("param p : k ;", 69, row[0]);
-            // The codings have 12 NAMES; the TABLE's coding k is the 12th, its ROWS follow.
-            sides(x, 1, row[0], 1, 1, 1, row[1] == 0 ? 0 : row[1] - 1);
+            sides(x, 1, row[0], 1, 1, 1, row[1]);
         }
         Due.is("decode(1, 1, 4) without a TABLE", with("param p : u ;", 69, 1).decode(1, 1, 4), 0);
     }

@@ -11,6 +11,7 @@ public final class EncodeTest {
         farValues();
         remembered();
         hangingOnes();
+        groupsBehind();
         room();
         refusals();
         Due.done();
@@ -88,6 +89,9 @@ public final class EncodeTest {
         Due.is("8191 is the most", wrap.encode(1, 1, 8191), 1);
         Due.is("SENT", Due.sent(wrap), "69 255 248 0 0");
         Due.is("8192 is too much", wrap.encode(1, 1, 8192), 0);
+        for (long v : new long[] {Long.MIN_VALUE, Long.MAX_VALUE, -1L << 62, 1L << 62, -1L << 45, -1}) {
+            Due.is("encode(1, 1, " + v + ") over 524288", wrap.encode(1, 1, v), 0);
+        }
     }
 
     private static void remembered() {
@@ -129,6 +133,14 @@ public final class EncodeTest {
         Due.is("SENT with two", Due.sent(x), "69 2 1 2 0 0 66");
         Due.is("encode(1, 1, 100)", x.encode(1, 1, 100), 1);
         Due.is("SENT with eight at most", Due.sent(x), "69 100 1 2 0 0 0 0 0 0 0 0 0 0 0 0 0 0 66");
+    }
+
+    private static void groupsBehind() {
+        DescribeText x = with("param a : u ; param b : h times a ; param c : g times a ;");
+        Due.is("encode(1, 1, 3)", x.encode(1, 1, 3), 1);
+        Due.is("encode(1, 2, -2)", x.encode(1, 2, -2), 1);
+        Due.is("encode(1, 3, -1)", x.encode(1, 3, -1), 1);
+        Due.is("groups behind the first one have 0", Due.sent(x), "69 3 255 254 0 0 0 0 255 0 0");
     }
 
     private static void room() {

@@ -30,6 +30,9 @@ public final class ServiceTest {
         }
         DescribeText later = Due.with("layer a of b { } layer b { service s = 1 { } }");
         Due.is("service(1, 4) of a layer that is OF a later one", later.service(1, 4), 1);
+        DescribeText deep = Due.with("layer a of b { } layer b of c { } layer c of d { } layer d of e { } layer e of f { }"
+                + " layer f { service s = 1 { } service t = 2 { } }");
+        Due.is("service(2, 4) through six layers", deep.service(2, 4), 2);
         DescribeText none = Due.with("layer a { service s = 1 { } } variant a = 5 ;");
         Due.is("variant(6)", none.variant(6), 0);
         Due.is("service(1, 4) with no layer IN USE", none.service(1, 4), 0);

@@ -38,6 +38,15 @@ public final class TokenTest {
         for (int i = 0; i < numbers.length; i++) {
             Due.is("code(" + (i + 1) + ")", x.code(i + 1), numbers[i]);
         }
+        String[] alike = {"ab", "ba", "a", "aa", "b0", "a9", "z", "z0", "za", "abc", "acb", "bac"};
+        StringBuilder codes = new StringBuilder();
+        for (int i = 0; i < alike.length; i++) {
+            codes.append("code ").append(i).append(" = ").append(alike[i]).append(" ; ");
+        }
+        DescribeText different = Due.with(codes.toString());
+        for (int i = 0; i < alike.length; i++) {
+            Due.is("code(" + i + ") of " + alike[i], different.code(i), i + 1);
+        }
         DescribeText y = Due.with("code 1 = abcdefghijkl ; code 2 = abcdefghijkm ; code 3 = zzzzzzzzzzzz ; code 4 = z99999999999 ;"
                 + " code 5 = a ; code 6 = aaaaaaaaaaaa ; code 7 = zzzzzzzzzzzz ;");
         int[] long12 = {1, 2, 3, 4, 5, 6, 3};
