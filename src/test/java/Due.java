@@ -1,22 +1,32 @@
 /** What all tests of the project use: texts into an object, rows out of it, and the count of wrong answers. */
 final class Due {
     private static int wrong = 0;
+    private static String sentence = "";
 
     private Due() {
     }
 
+    /** The document's words that the answers behind this are due by; a wrong answer is told with them. */
+    static void sentence(String words) {
+        sentence = words;
+    }
+
     static void is(String call, long got, long want) {
         if (got != want) {
-            wrong++;
-            System.out.println(call + " answered " + got + ", due is " + want);
+            tellWrong(call, String.valueOf(got), String.valueOf(want));
         }
     }
 
     static void is(String call, String got, String want) {
         if (!got.equals(want)) {
-            wrong++;
-            System.out.println(call + " answered " + got + ", due is " + want);
+            tellWrong(call, String.valueOf(got), String.valueOf(want));
         }
+    }
+
+    private static void tellWrong(String call, String got, String want) {
+        wrong++;
+        String by = sentence.isEmpty() ? "" : " (\"" + sentence + "\")";
+        System.out.println(call + " answered " + got + ", due is " + want + by);
     }
 
     static void done() {
@@ -84,6 +94,11 @@ final class Due {
         } catch (ArrayIndexOutOfBoundsException e) {
             return true;
         }
+    }
+
+    /** The LINES, each with a 10 behind it but the last. */
+    static String lines(String... lines) {
+        return String.join("\n", lines);
     }
 
     static String row(int first, int count, int rest) {
