@@ -19,6 +19,7 @@ public final class AnswerEdgesTest {
         firstGroup();
         scales();
         tables();
+        notThere();
         numbersAndSides();
         Due.done();
     }
@@ -292,6 +293,25 @@ public final class AnswerEdgesTest {
         Due.is("decode(1, 2, 4) when it is not there", groups.decode(1, 2, 4), 0);
         Due.tell(groups, 69, 2, 1, 0);
         Due.is("decode(1, 2, 4) of two GROUPS", groups.decode(1, 2, 4), 4);
+    }
+
+    private static void notThere() {
+        Due.sentence("If it is not there, -1 for side 2, and 0 for others");
+        // By its scale RAW 0 would be 3 / 1, by its TABLE z.
+        DescribeText x = Due.with("coding f = 1 octets scale 1 / 2 plus 3 ; coding t = 1 octets { 0 z ; }"
+                + " layer l { service s = 5 { param a : f ; param b : t ; param c : f when a = 9 ; param d : t times c ; } }");
+        for (int p = 1; p <= 4; p++) {
+            sides(x, p, NOT_THERE);
+        }
+        Due.tell(x, 69);
+        for (int p = 1; p <= 4; p++) {
+            sides(x, p, NOT_THERE);
+        }
+        Due.tell(x, 0, 0, 0, 0);
+        sides(x, 1, 3, 1, 1, 1, 0);
+        sides(x, 2, 0, 1, 2, 1, 3);
+        sides(x, 3, NOT_THERE);
+        sides(x, 4, NOT_THERE);
     }
 
     private static void numbersAndSides() {

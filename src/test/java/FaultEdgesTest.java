@@ -20,6 +20,9 @@ public final class FaultEdgesTest {
 
     public static void main(String[] args) {
         everyToken();
+        outOfBounds();
+        octetsOfNoToken();
+        tooLong();
         textsEnd();
         firstOfForm();
         formBeforeWrong();
@@ -52,6 +55,46 @@ public final class FaultEdgesTest {
         String[] changed = tokens.clone();
         changed[at] = other;
         Due.reads(Due.lines(changed), -at - 1);
+    }
+
+    private static void outOfBounds() {
+        Due.sentence("also of one that .. is a NUMBER out of its bounds");
+        Due.reads("coding\nc\n=\n0\noctets\n;", -4);
+        Due.reads("coding\nc\n=\n5\noctets\n;", -4);
+        Due.reads("coding\nc\n=\n4\noctets\n;", 0);
+        Due.reads("layer l { service\ns\n=\n192\n{ } }", -4);
+        Due.reads("layer l { service\ns\n=\n191\n{ } }", 1);
+        Due.reads("coding c = 1 octets scale\n1\n/\n0\nplus 1 ;", -4);
+        Due.reads("coding c = 1 octets scale\n1\n/\n1\nplus 1 ;", 0);
+    }
+
+    /** Wherever a token may begin, between all tokens of a text. */
+    private static void octetsOfNoToken() {
+        Due.sentence("THE FAULT is the LINE .. of an octet with which no token begins");
+        String[] tokens = "coding a = 1 octets ; layer l { service s = 5 { param p : a ; } } code 1 = x ;".split(" ");
+        for (int at = 0; at <= tokens.length; at++) {
+            for (char octet : new char[] {1, 8, 11, 12, 14, 31, '!', '"', '+', ',', '.', '<', '>', '@', 'A', 'Z', '[', '_', '`', '|', '~', 127, 128, 255}) {
+                StringBuilder text = new StringBuilder();
+                for (int i = 0; i < tokens.length; i++) {
+                    text.append(i == at ? "" + octet : "").append(i == at ? "\n" : "").append(tokens[i]).append('\n');
+                }
+                Due.reads(text.append(at == tokens.length ? "" + octet : "").toString(), -at - 1);
+            }
+        }
+    }
+
+    private static void tooLong() {
+        Due.sentence("THE FAULT is the LINE .. of the first letter or digit that a NAME or NUMBER is too long by");
+        Due.reads("code\n1\n=\nabcdefghijkl\n;", 0);
+        Due.reads("code\n1\n=\nabcdefghijklm\n;", -4);
+        Due.reads("code\n1\n=\nabcdefghijkl9\n;", -4);
+        Due.reads("code\n123456\n=\nn\n;", 0);
+        Due.reads("code\n1234567\n=\nn\n;", -2);
+        Due.reads("code\n0000001\n=\nn\n;", -2);
+        // It is a fault too where a shorter one would be none.
+        Due.reads("\nlayerlayerlayer", -2);
+        Due.reads("code 1 = n ;\n\nabcdefghijklm", -3);
+        Due.reads("code 1 = n ;\n\n1234567", -3);
     }
 
     private static void textsEnd() {

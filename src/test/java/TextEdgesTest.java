@@ -215,19 +215,20 @@ public final class TextEdgesTest {
     private static void calls512() {
         Due.sentence("An object is used for at most 512 calls after it has been made");
         DescribeText x = new DescribeText();
+        String text = "coding c = 1 octets ; layer l { service s = 5 { param p : c ; } } code 7 = k ; job j { get s p ; send ; }";
         // 500 calls for 2000 octets, and the rest of the 512 are answered as due.
-        Due.sign(x, blanks(2000 - 74) + "coding c = 1 octets ; layer l { service s = 5 { param p : c ; } } code 7=k");
-        x.sign(0);
-        x.sign(' ');
-        Due.is("read(), call 503: the ; is wanting", x.read(), -1);
-        x.sign('}' << 24 | '\n' << 16);
-        Due.is("read(), call 505", x.read(), -1);
-        Due.is("read(), call 506", x.read(), 0);
+        Due.sign(x, blanks(2000 - text.length()) + text);
+        Due.is("read(), call 501", x.read(), 1);
         x.octet((byte) 69);
+        x.octet((byte) 200);
+        Due.is("encode(1, 1, 9), call 504", x.encode(1, 1, 9), 1);
+        Due.is("out(1), call 505", x.out(1), 9);
+        Due.is("job(1, 2), call 506", x.job(1, 2), 1);
+        Due.is("out(0), call 507", x.out(0), -56);
         Due.is("compare(1), call 508", x.compare(1), 0);
-        Due.is("variant(1), call 509", x.variant(1), 0);
-        Due.is("job(1, 1), call 510", x.job(1, 1), -1);
-        Due.is("code(7), call 511", x.code(7), 0);
-        Due.is("read(), call 512", x.read(), 0);
+        Due.is("variant(1), call 509", x.variant(1), 1);
+        Due.is("code(7), call 510", x.code(7), 5);
+        Due.is("service(1, 4), call 511", x.service(1, 4), 1);
+        Due.is("decode(1, 1, 0), call 512", x.decode(1, 1, 0), 200);
     }
 }
