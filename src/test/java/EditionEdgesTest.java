@@ -47,8 +47,8 @@ public final class EditionEdgesTest {
         DescribeText x = new DescribeText();
         Due.is("a text with a FAULT", Due.read(x, "layer"), -1);
         Due.is("compare(1)", x.compare(1), -1);
-        Due.is("a text that is not READ", signOnly(x), 0);
-        Due.is("compare(1)", x.compare(1), -1);
+        Due.sign(x, services(2));
+        Due.is("compare(1) with a text that is not READ", x.compare(1), -1);
         Due.is("read()", x.read(), 2);
         Due.is("compare(1)", x.compare(1), 0);
         Due.is("compare(0)", x.compare(0), -1);
@@ -60,11 +60,6 @@ public final class EditionEdgesTest {
         Due.is("compare(1)", x.compare(1), 3);
         Due.is("compare(2)", x.compare(2), 0);
         Due.is("compare(3)", x.compare(3), -1);
-    }
-
-    private static int signOnly(DescribeText x) {
-        Due.sign(x, services(2));
-        return 0;
     }
 
     private static void firstFourAreKept() {

@@ -49,13 +49,12 @@ public final class TextEdgesTest {
             Due.is("read() of " + length + " octets", Due.read(x, blanks(length - CODE.length()) + CODE), want);
             Due.is("code(1) in " + length + " octets", x.code(1), 0);
         }
-        Due.is("a NAME's last letter is octet 2000", lastName(2000), -1);
+        for (String last : new String[] {"code", "code 1", "code 123456", "code 1234567", "code 1a", "code 1 =", "code 1 = n", "code 1 = abcdefghijkl", "x", "-", "\u0080"}) {
+            Due.is("read() of 2000 octets with " + last + " at the end", Due.read(new DescribeText(), Due.many("\n", 2000 - last.length()) + last),
+                    -2001 + last.length());
+        }
         Due.is("octet 2000 is a fault of its own", Due.read(new DescribeText(), Due.many("\n", 1999) + ";"), -2000);
         Due.is("octet 2001 is none", Due.read(new DescribeText(), Due.many("\n", 2000) + ";"), 0);
-    }
-
-    private static int lastName(int length) {
-        return Due.read(new DescribeText(), blanks(length - 5) + "codexx");
     }
 
     private static void blanksAreFour() {
