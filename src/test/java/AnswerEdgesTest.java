@@ -272,14 +272,13 @@ public final class AnswerEdgesTest {
 
     private static void tables() {
         Due.sentence("4 the number of the NAME that its TABLE has for its RAW (0 for none)");
-        DescribeText x = Due.with("coding a = 1 octets { 0 b ; 255 d ; 256 e ; 7 b ; } coding f = 4 octets { 999999 h ; 0 d ; } coding u = 1 octets ;"
-                + " layer l { service s = 5 { param p : a ; param q : f ; param r : u ; } }");
+        String text = "coding a = 1 octets { 0 b ; 255 d ; 256 e ; 7 b ; } coding f = 4 octets { 999999 h ; 0 d ; } coding u = 1 octets ;"
+                + " layer l { service s = 5 { param p : a ; param q : f ; param r : u ; } }";
         // a 1, b 2, d 3, e 4, f 5, h 6
         int[][] rows = {{0, 2}, {255, 3}, {7, 2}, {1, 0}, {6, 0}, {8, 0}, {254, 0}};
         for (int[] row : rows) {
-            for (int i = 0; i < 64; i++) {
-                Due.tell(x, i == 0 ? 69 : i == 1 ? row[0] : 0);
-            }
+            DescribeText x = Due.with(text);
+            Due.tell(x, 69, row[0], 0, 0, 0, 0, 0);
             Due.is("decode(1, 1, 4) by RAW " + row[0], x.decode(1, 1, 4), row[1]);
             Due.is("decode(1, 2, 4) by RAW 0", x.decode(1, 2, 4), 3);
             Due.is("decode(1, 3, 4) without a TABLE", x.decode(1, 3, 4), 0);

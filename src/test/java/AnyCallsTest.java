@@ -6,6 +6,8 @@ public final class AnyCallsTest {
             + " dup swap drop send while { } { } ; ; ; : = / - a b c d 0 1 2 3 5 191 192 255 999999 1000000 1x abcdefghijklm A \u0001 \n").split(" ");
     private static final int[] EDGES = {0, 1, 2, 3, 4, 5, 8, 9, 16, 17, 63, 64, 65, -1, -2, 255, 256, 5000, 5001,
         Integer.MAX_VALUE, Integer.MIN_VALUE};
+    /** So many kinds of calls are runs of sign. */
+    private static final int TEXTS = 2;
     private static final Random RANDOM = new Random(20261115);
 
     public static void main(String[] args) {
@@ -32,20 +34,27 @@ public final class AnyCallsTest {
         DescribeText x = new DescribeText();
         String last = "new";
         try {
-            for (int call = 0; call < 512; call++) {
-                last = oneCall(x);
+            for (int left = 512; left > 0;) {
+                int which = pick(16);
+                last = "call " + which;
+                left -= which < TEXTS ? signSome(x, which, left) : oneCall(x, which);
             }
         } catch (RuntimeException e) {
-            Due.is("a call behind " + last, e.toString(), "nothing thrown");
+            Due.is(last, e.toString(), "nothing thrown");
         }
     }
 
-    private static String oneCall(DescribeText x) {
-        int which = pick(16);
+    /** Signs as much of a text as the calls that are left can, and answers how many calls that were. */
+    private static int signSome(DescribeText x, int which, int left) {
+        String text = which == 0 ? PARTS[pick(PARTS.length)] + " " : anyText();
+        String some = text.substring(0, Math.min(text.length(), 4 * left));
+        Due.sign(x, some);
+        return (some.length() + 3) / 4;
+    }
+
+    private static int oneCall(DescribeText x, int which) {
         switch (which) {
-            case 0: x.sign(RANDOM.nextInt()); break;
-            case 1: Due.sign(x, PARTS[pick(PARTS.length)] + " "); break;
-            case 2: Due.sign(x, anyText()); break;
+            case 2: x.sign(RANDOM.nextInt()); break;
             case 3: case 4: x.read(); break;
             case 5: x.service(edge(), edge()); break;
             case 6: x.parameter(edge(), edge(), edge()); break;
@@ -59,7 +68,7 @@ public final class AnyCallsTest {
             case 14: x.compare(edge()); break;
             default: x.code(edge());
         }
-        return "call " + which;
+        return 1;
     }
 
     /** A text that goes well, or one with a token changed. */

@@ -130,10 +130,14 @@ public final class EditionEdgesTest {
         Due.is("read() of no text", x.read(), 0);
         Due.is("compare(3): these were three EDITIONS", x.compare(3), 0);
         Due.is("compare(4)", x.compare(4), -1);
-        // After a full text there is room for 2000 again, and LINES are counted from 1 on.
-        Due.is("2000 octets", Due.read(x, Due.many("\n", 1999) + "}"), -2000);
-        Due.is("2000 octets more", Due.read(x, Due.many("\n", 1999) + "}"), -2000);
-        Due.is("one more", Due.read(x, "}"), -1);
+        // After a text there is room for 2000 again, and LINES are counted from 1 on.
+        DescribeText half = new DescribeText();
+        Due.is("1001 octets", Due.read(half, Due.many("\n", 1000) + "}"), -1001);
+        Due.is("1001 octets more", Due.read(half, Due.many("\n", 1000) + "}"), -1001);
+        Due.is("one more", Due.read(half, "}"), -1);
+        DescribeText full = new DescribeText();
+        Due.is("2000 octets", Due.read(full, Due.many("\n", 1999) + "}"), -2000);
+        Due.is("a few behind a full text", Due.read(full, "\n}"), -2);
     }
 
     private static void staysInHand() {

@@ -89,9 +89,10 @@ public final class SignEdgesTest {
             x.sign(octets(10, 10, 10, 10));
         }
         Due.is("LINES behind 2000 are not counted", x.read(), -1996);
-        Due.sign(x, Due.many("\n", 1994) + "layer");
-        x.sign(octets(10, 10, 10, 10));
-        Due.is("the 2000th octet ends a LINE", x.read(), -1996);
+        DescribeText y = new DescribeText();
+        Due.sign(y, Due.many("\n", 1994) + "layer");
+        y.sign(octets(10, 10, 10, 10));
+        Due.is("the 2000th octet ends a LINE", y.read(), -1996);
     }
 
     private static void zerosTakeNoRoom() {
@@ -101,13 +102,15 @@ public final class SignEdgesTest {
             x.sign(i < 499 ? octets(0, 10, 0, 10) : octets(0, 10, 0, '}'));
         }
         Due.is("read() of 1000 octets between zeros", x.read(), -1000);
-        Due.sign(x, Due.many("\n", 1999));
-        x.sign(0);
-        x.sign(octets(0, 0, '}', '}'));
-        Due.is("the 2000th octet behind zeros", x.read(), -2000);
-        Due.sign(x, Due.many("\n", 1999));
-        x.sign(octets(0, 10, 0, '}'));
-        Due.is("the 2001st octet behind zeros", x.read(), 0);
+        DescribeText y = new DescribeText();
+        Due.sign(y, Due.many("\n", 1999));
+        y.sign(0);
+        y.sign(octets(0, 0, '}', '}'));
+        Due.is("the 2000th octet behind zeros", y.read(), -2000);
+        DescribeText z = new DescribeText();
+        Due.sign(z, Due.many("\n", 1999));
+        z.sign(octets(0, 10, 0, '}'));
+        Due.is("the 2001st octet behind zeros", z.read(), 0);
     }
 
     private static void notReadYet() {

@@ -42,9 +42,10 @@ public final class SignTest {
         Due.is("code(1)", full.code(1), 1);
         Due.is("the text is empty then", Due.read(full, "code 2 = m ;"), 0);
         Due.is("code(2)", full.code(2), 1);
-        Due.is("the ; is octet 2001", Due.read(full, " " + blanks + code), -1);
-        Due.is("the end's line counts octet 2000", Due.read(full, Due.many("\n", 2000 - 4) + "code;"), -1997);
-        Due.is("2000 lines end", Due.read(full, "layer" + Due.many("\n", 2100)), -1996);
+        // The ; is octet 2001; the end's line counts octet 2000, and none behind it.
+        Due.reads(" " + blanks + code, -1);
+        Due.reads(Due.many("\n", 2000 - 4) + "code;", -1997);
+        Due.reads("layer" + Due.many("\n", 2030), -1996);
         DescribeText split = new DescribeText();
         Due.sign(split, Due.many(" ", 1996) + "co");
         split.sign('d' << 24 | 'e' << 16 | '\n' << 8 | '\n');
